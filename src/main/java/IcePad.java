@@ -269,7 +269,10 @@ public final class IcePad {
         return NONE;
     }
 
-    /** Returns litres: supplied (0), in tanks (1), on aircraft (2), basin (3), cleaned (4), river (5); or the heap (6). */
+    /**
+     * Returns a sum of litres: supplied (0), in the tanks (1), on aircraft (2), in the basin (3), cleaned (4),
+     * in the river (5); or of depth: the heap (6).
+     */
     public int sum(int what) throws IllegalArgumentException {
         requireRange(what, 0, 6);
         switch (what) {

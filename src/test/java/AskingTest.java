@@ -18,36 +18,29 @@ public final class AskingTest {
         Check.end();
     }
 
-    private static IcePad after(int minutes, int temperature, int fall, int rate) {
-        IcePad x = new IcePad();
-        x.weather(temperature, fall, rate, 0);
-        x.pass(minutes);
-        return x;
-    }
-
     private static int codeAt(IcePad x, int temperature) {
         x.weather(temperature, CLEAR, 0, 0);
         return x.code(0);
     }
 
     private static void promise14Code() {
-        Check.is("dry", after(1, 0, CLEAR, 0).code(0), 6);
-        Check.is("wet", after(1, 0, RAIN, 1).code(0), 5);
-        IcePad thin = after(3, 0, SNOW, 10);
+        Check.is("dry", Check.after(1, 0, CLEAR, 0).code(0), 6);
+        Check.is("wet", Check.after(1, 0, RAIN, 1).code(0), 5);
+        IcePad thin = Check.after(3, 0, SNOW, 10);
         Check.is("30 of snow at -30", codeAt(thin, -30), 3);
         Check.is("30 of snow at -31", codeAt(thin, -31), 5);
-        IcePad more = after(1, 0, SNOW, 1);
+        IcePad more = Check.after(1, 0, SNOW, 1);
         more.weather(0, SNOW, 30, 0);
         more.pass(1);
         Check.is("31 of snow at -31", codeAt(more, -31), 3);
-        IcePad much = after(5, 0, SNOW, 20);
+        IcePad much = Check.after(5, 0, SNOW, 20);
         Check.is("100 of snow", codeAt(much, 0), 3);
         Check.is("100 of snow at -31", codeAt(much, -31), 3);
         much.weather(0, SNOW, 1, 0);
         much.pass(1);
         Check.is("101 of snow", codeAt(much, 0), 2);
         Check.is("101 of snow at -31", codeAt(much, -31), 2);
-        IcePad ice = after(1, -1, FROST, 0);
+        IcePad ice = Check.after(1, -1, FROST, 0);
         Check.is("ice at -30", codeAt(ice, -30), 0);
         Check.is("ice at -31", codeAt(ice, -31), 1);
         Check.noIndex("code -1", ice, () -> ice.code(-1));
@@ -178,7 +171,8 @@ public final class AskingTest {
             x.table(2, FROST, 333);
             for (int i = 0; i < temperatures.length; i++) {
                 x.weather(temperatures[i], FROST, 0, 0);
-                Check.is("clock at " + temperatures[i] + ", " + strength, x.clock(0), 333 * strength * factors[i] / 100);
+                double due = 333 * strength * factors[i] / 100;
+                Check.is("clock at " + temperatures[i] + ", " + strength, x.clock(0), due);
                 x.weather(temperatures[i], CLEAR, 0, 0);
                 Check.is("clear at " + temperatures[i] + ", " + strength, x.clock(0), 1000000.0);
             }

@@ -61,6 +61,14 @@ final class Check {
         same(what + " leaves", pictureOf(x), before);
     }
 
+    /** A new airport with this weather and no wind, some minutes later. */
+    static IcePad after(int minutes, int temperature, int fall, int rate) {
+        IcePad x = new IcePad();
+        x.weather(temperature, fall, rate, 0);
+        x.pass(minutes);
+        return x;
+    }
+
     /** All that can be asked of an airport, as one text. */
     static String pictureOf(IcePad x) {
         StringBuilder picture = new StringBuilder();

@@ -51,6 +51,7 @@ public final class RiverAndMinutesTest {
         Check.notNow("release more", x, () -> x.release(1));
         x.permit(100000);
         Check.notNow("release more than there is", x, () -> x.release(7501));
+        Check.notNow("release as much as may be told", x, () -> x.release(100000));
         Check.noArgument("release 0", x, () -> x.release(0));
         Check.noArgument("release -1", x, () -> x.release(-1));
         Check.noArgument("release 100001", x, () -> x.release(100001));
@@ -207,10 +208,25 @@ public final class RiverAndMinutesTest {
         x.treat(2, 0, 0, 10, 100);
         x.pass(2);
         Check.is("clean, and run out, ahead of leaving", x.aircraftOf(2, 0), IcePad.WAITS);
+        runwayComesAheadOfLeaving();
+    }
+
+    private static void runwayComesAheadOfLeaving() {
+        IcePad x = new IcePad();
+        x.supply(2, 100);
+        x.aircraft(20, 2, 500);
+        x.aircraft(20, 3, 500);
+        x.treat(0, 0, 2, 10, 100);
+        x.treat(1, 1, 2, 10, 100);
+        x.pass(1);
+        Check.is("the runway is good, and one is on its pad", x.isGood() && x.aircraftOf(0, 0) == IcePad.ON_PAD, true);
         x.weather(-10, RAIN, 5, 11);
-        x.table(0, RAIN, 500);
-        x.treat(2, 0, 0, 10, 100);
+        x.pass(1);
+        Check.is("the runway freezes ahead of leaving", x.aircraftOf(0, 0), IcePad.CLEAN);
+        x.weather(400, CLEAR, 0, 11);
         x.pass(2);
-        Check.is("the runway freezes ahead of leaving", x.aircraftOf(2, 0), IcePad.CLEAN);
+        Check.is("it is still icy", x.thirdOf(0, 0), 3);
+        x.pass(1);
+        Check.is("it melts ahead of leaving", x.aircraftOf(0, 1), 5);
     }
 }

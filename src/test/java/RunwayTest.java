@@ -21,14 +21,6 @@ public final class RunwayTest {
         Check.end();
     }
 
-    /** An airport with this weather, some minutes later. */
-    private static IcePad after(int minutes, int temperature, int fall, int rate) {
-        IcePad x = new IcePad();
-        x.weather(temperature, fall, rate, 0);
-        x.pass(minutes);
-        return x;
-    }
-
     private static void third(String what, IcePad x, int third, int cover, int depth) {
         Check.is(what + ": cover", x.thirdOf(third, 0), cover);
         Check.is(what + ": depth", x.thirdOf(third, 1), depth);
@@ -87,25 +79,25 @@ public final class RunwayTest {
     }
 
     private static void promise2Snow() {
-        third("snow on dry", after(1, 0, SNOW, 7), 2, SNOWY, 7);
-        third("snow adds", after(4, 0, SNOW, 7), 0, SNOWY, 28);
-        third("snow of rate 0", after(1, 0, SNOW, 0), 0, SNOWY, 0);
-        IcePad ice = after(1, -10, RAIN, 5);
+        third("snow on dry", Check.after(1, 0, SNOW, 7), 2, SNOWY, 7);
+        third("snow adds", Check.after(4, 0, SNOW, 7), 0, SNOWY, 28);
+        third("snow of rate 0", Check.after(1, 0, SNOW, 0), 0, SNOWY, 0);
+        IcePad ice = Check.after(1, -10, RAIN, 5);
         ice.weather(-10, SNOW, 4, 0);
         ice.pass(2);
         third("snow on ice", ice, 1, ICY, 13);
-        IcePad wet = after(1, 0, RAIN, 5);
+        IcePad wet = Check.after(1, 0, RAIN, 5);
         wet.weather(-10, SNOW, 4, 0);
         wet.pass(1);
         third("snow on wet, ahead of the freezing", wet, 1, SNOWY, 4);
     }
 
     private static void promise2Rain() {
-        third("rain at 0", after(3, 0, RAIN, 5), 0, WET, 0);
-        third("rain below 0", after(1, -1, RAIN, 5), 0, ICY, 5);
-        third("rain below 0 adds", after(3, -1, RAIN, 5), 2, ICY, 15);
-        third("rain of rate 0 below 0", after(1, -1, RAIN, 0), 2, ICY, 0);
-        IcePad snow = after(2, 0, SNOW, 10);
+        third("rain at 0", Check.after(3, 0, RAIN, 5), 0, WET, 0);
+        third("rain below 0", Check.after(1, -1, RAIN, 5), 0, ICY, 5);
+        third("rain below 0 adds", Check.after(3, -1, RAIN, 5), 2, ICY, 15);
+        third("rain of rate 0 below 0", Check.after(1, -1, RAIN, 0), 2, ICY, 0);
+        IcePad snow = Check.after(2, 0, SNOW, 10);
         snow.weather(0, RAIN, 5, 0);
         snow.pass(1);
         third("rain at 0 on snow", snow, 0, SNOWY, 20);
@@ -115,27 +107,27 @@ public final class RunwayTest {
         snow.weather(0, RAIN, 5, 0);
         snow.pass(1);
         third("rain at 0 on ice", snow, 0, ICY, 25);
-        IcePad wet = after(1, 0, RAIN, 5);
+        IcePad wet = Check.after(1, 0, RAIN, 5);
         wet.weather(-1, RAIN, 5, 0);
         wet.pass(1);
         third("rain below 0 on wet", wet, 0, ICY, 5);
     }
 
     private static void promise2Frost() {
-        third("frost at 0", after(1, 0, FROST, 9), 0, DRY, 0);
-        third("frost below 0", after(3, -1, FROST, 9), 0, ICY, 1);
-        IcePad snow = after(1, 0, SNOW, 10);
+        third("frost at 0", Check.after(1, 0, FROST, 9), 0, DRY, 0);
+        third("frost below 0", Check.after(3, -1, FROST, 9), 0, ICY, 1);
+        IcePad snow = Check.after(1, 0, SNOW, 10);
         snow.weather(-1, FROST, 9, 0);
         snow.pass(1);
         third("frost on snow", snow, 0, SNOWY, 10);
-        IcePad wet = after(1, 0, RAIN, 5);
+        IcePad wet = Check.after(1, 0, RAIN, 5);
         wet.weather(-1, FROST, 9, 0);
         wet.pass(1);
         third("frost on wet", wet, 0, ICY, 1);
     }
 
     private static void promise2Melting() {
-        IcePad x = after(1, 20, SNOW, 5);
+        IcePad x = Check.after(1, 20, SNOW, 5);
         third("no melting at 20", x, 0, SNOWY, 5);
         x.weather(21, CLEAR, 0, 0);
         x.pass(1);
@@ -144,33 +136,33 @@ public final class RunwayTest {
         third("melting leaves 1", x, 0, SNOWY, 1);
         x.pass(1);
         third("melting from 1", x, 0, WET, 0);
-        third("melting from 2 leaves nothing", after(1, 21, SNOW, 2), 0, WET, 0);
-        third("falls, then melts", after(1, 21, SNOW, 3), 0, SNOWY, 1);
-        IcePad ice = after(1, -1, RAIN, 5);
+        third("melting from 2 leaves nothing", Check.after(1, 21, SNOW, 2), 0, WET, 0);
+        third("falls, then melts", Check.after(1, 21, SNOW, 3), 0, SNOWY, 1);
+        IcePad ice = Check.after(1, -1, RAIN, 5);
         ice.weather(30, CLEAR, 9, 0);
         ice.pass(2);
         third("ice melts", ice, 0, ICY, 1);
         ice.pass(1);
         third("ice melts to wet", ice, 0, WET, 0);
-        third("dry does not melt", after(3, 100, CLEAR, 0), 0, DRY, 0);
+        third("dry does not melt", Check.after(3, 100, CLEAR, 0), 0, DRY, 0);
     }
 
     private static void promise2Freezing() {
-        IcePad x = after(1, 0, RAIN, 5);
+        IcePad x = Check.after(1, 0, RAIN, 5);
         x.weather(0, CLEAR, 0, 0);
         x.pass(1);
         third("no freezing at 0", x, 0, WET, 0);
         x.weather(-1, CLEAR, 9, 0);
         x.pass(2);
         third("wet freezes", x, 0, ICY, 1);
-        third("dry does not freeze", after(3, -100, CLEAR, 9), 0, DRY, 0);
+        third("dry does not freeze", Check.after(3, -100, CLEAR, 9), 0, DRY, 0);
     }
 
     private static void promise2DeepestDepth() {
-        third("166 minutes of 30", after(166, -10, SNOW, 30), 0, SNOWY, 4980);
-        third("167 minutes of 30", after(167, -10, SNOW, 30), 0, SNOWY, 5000);
-        third("500 minutes of freezing rain", after(500, -10, RAIN, 30), 1, ICY, 5000);
-        IcePad x = after(400, -10, SNOW, 30);
+        third("166 minutes of 30", Check.after(166, -10, SNOW, 30), 0, SNOWY, 4980);
+        third("167 minutes of 30", Check.after(167, -10, SNOW, 30), 0, SNOWY, 5000);
+        third("500 minutes of freezing rain", Check.after(500, -10, RAIN, 30), 1, ICY, 5000);
+        IcePad x = Check.after(400, -10, SNOW, 30);
         x.weather(21, SNOW, 30, 0);
         x.pass(1);
         third("the deepest snow melts", x, 0, SNOWY, 4998);
@@ -241,7 +233,7 @@ public final class RunwayTest {
     }
 
     private static void promise4Ploughs() {
-        IcePad x = after(3, -10, SNOW, 20);
+        IcePad x = Check.after(3, -10, SNOW, 20);
         x.weather(-10, CLEAR, 0, 0);
         x.close(2, 2);
         third("no ploughing without a minute", x, 0, SNOWY, 60);
@@ -266,7 +258,7 @@ public final class RunwayTest {
     }
 
     private static void ploughsLeaveIce() {
-        IcePad x = after(2, -10, RAIN, 20);
+        IcePad x = Check.after(2, -10, RAIN, 20);
         x.close(5, 11);
         x.weather(-10, CLEAR, 0, 0);
         x.pass(5);
@@ -275,7 +267,7 @@ public final class RunwayTest {
     }
 
     private static void ploughsComeBehindTheFall() {
-        IcePad x = after(1, 0, SNOW, 30);
+        IcePad x = Check.after(1, 0, SNOW, 30);
         x.close(2, 1);
         x.pass(1);
         third("fallen and ploughed", x, 0, SNOWY, 20);
@@ -287,7 +279,7 @@ public final class RunwayTest {
     }
 
     private static void promise4BareSnowIsWet() {
-        IcePad x = after(2, 10, SNOW, 0);
+        IcePad x = Check.after(2, 10, SNOW, 0);
         third("snow without depth stays when open", x, 0, SNOWY, 0);
         x.close(1, 0);
         x.pass(1);
@@ -295,7 +287,7 @@ public final class RunwayTest {
         third("on each third", x, 2, WET, 0);
         x.pass(1);
         third("open again", x, 0, SNOWY, 0);
-        IcePad ice = after(1, -10, RAIN, 0);
+        IcePad ice = Check.after(1, -10, RAIN, 0);
         ice.close(1, 11);
         ice.pass(1);
         third("ice without depth stays", ice, 0, ICY, 0);
