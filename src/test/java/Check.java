@@ -1,17 +1,42 @@
-/** What the tests share: comparing answers, and calls that must be refused without a trace. */
+/** What the tests share: a test for each sentence, comparing answers, calls that must be refused without a trace. */
 final class Check {
-    private static final Class<?> INDEX = IndexOutOfBoundsException.class;
-    private static final Class<?> ARGUMENT = IllegalArgumentException.class;
-    private static final Class<?> STATE = IllegalStateException.class;
+    static final Class<?> INDEX = IndexOutOfBoundsException.class;
+    static final Class<?> ARGUMENT = IllegalArgumentException.class;
+    static final Class<?> STATE = IllegalStateException.class;
+
+    /** Spraying lasts longest of all that is hidden: 60 minutes. */
+    private static final int MINUTES_OF_A_STORY = 62;
 
     private static int checks = 0;
     private static int wrong = 0;
+    private static String sentence = "";
 
     interface Call {
         void run();
     }
 
+    interface CallOf {
+        void run(IcePad x);
+    }
+
+    interface Maker {
+        IcePad make();
+    }
+
     private Check() {
+    }
+
+    /** Runs the test of one sentence of the document; what is wrong in it is printed with the sentence. */
+    static void sentence(String words, Call test) {
+        sentence = words;
+        int before = checks;
+        try {
+            test.run();
+        } catch (RuntimeException e) {
+            same("the test of this sentence throws", e.toString(), "nothing");
+        }
+        is("the test of this sentence checks something", checks > before, true);
+        sentence = "";
     }
 
     static void is(String what, long got, long due) {
@@ -30,43 +55,109 @@ final class Check {
         checks++;
         if (!got.equals(due)) {
             wrong++;
-            System.out.println(what + " answered " + got + ", due is " + due);
+            System.out.println("[" + sentence + "] " + what + " answered " + got + ", due is " + due);
         }
+    }
+
+    /** The call must throw exactly this, and what was asked go on like a twin that was not. */
+    static void refused(Class<?> due, String what, Maker maker, CallOf call) {
+        IcePad x = maker.make();
+        same(what + " throws", thrownBy(() -> call.run(x)), due.getName());
+        sameStory(what + " changed it", storyOf(x), storyOf(maker.make()));
+    }
+
+    /** Stories are long: of two that differ only the place is told. */
+    private static void sameStory(String what, String got, String due) {
+        int at = 0;
+        while (at < got.length() && at < due.length() && got.charAt(at) == due.charAt(at)) {
+            at++;
+        }
+        same(what, around(got, at), around(due, at));
+    }
+
+    private static String around(String story, int at) {
+        return story.substring(Math.max(0, at - 40), Math.min(story.length(), at + 40));
+    }
+
+    /** The call must be taken. */
+    static void taken(String what, Maker maker, CallOf call) {
+        IcePad x = maker.make();
+        same(what + " throws", thrownBy(() -> call.run(x)), "nothing");
     }
 
     /** The call must throw IndexOutOfBoundsException, and change nothing that can be asked. */
     static void noIndex(String what, IcePad x, Call call) {
-        refused(what, x, INDEX, call);
+        refusedHere(INDEX, what, x, call);
     }
 
     /** The call must throw IllegalArgumentException, and change nothing that can be asked. */
     static void noArgument(String what, IcePad x, Call call) {
-        refused(what, x, ARGUMENT, call);
+        refusedHere(ARGUMENT, what, x, call);
     }
 
     /** The call must throw IllegalStateException, and change nothing that can be asked. */
     static void notNow(String what, IcePad x, Call call) {
-        refused(what, x, STATE, call);
+        refusedHere(STATE, what, x, call);
     }
 
-    private static void refused(String what, IcePad x, Class<?> due, Call call) {
+    private static void refusedHere(Class<?> due, String what, IcePad x, Call call) {
         String before = pictureOf(x);
-        String thrown = "nothing";
+        same(what + " throws", thrownBy(call), due.getName());
+        same(what + " leaves", pictureOf(x), before);
+    }
+
+    private static String thrownBy(Call call) {
         try {
             call.run();
         } catch (RuntimeException e) {
-            thrown = e.getClass().getName();
+            return e.getClass().getName();
         }
-        same(what + " throws", thrown, due.getName());
-        same(what + " leaves", pictureOf(x), before);
+        return "nothing";
     }
 
     /** A new airport with this weather and no wind, some minutes later. */
     static IcePad after(int minutes, int temperature, int fall, int rate) {
         IcePad x = new IcePad();
+        then(x, minutes, temperature, fall, rate);
+        return x;
+    }
+
+    /** The airport with this weather and no wind, some minutes later. */
+    static void then(IcePad x, int minutes, int temperature, int fall, int rate) {
         x.weather(temperature, fall, rate, 0);
         x.pass(minutes);
-        return x;
+    }
+
+    /** What an airport answers now and minute by minute: what can't be asked shows by what follows from it. */
+    static String storyOf(IcePad x) {
+        StringBuilder story = new StringBuilder(pictureOf(x));
+        addTable(story, x);
+        addRiver(story, x);
+        for (int i = 0; i < MINUTES_OF_A_STORY; i++) {
+            story.append(" minute ").append(x.pass(1)).append(pictureOf(x));
+        }
+        return story.toString();
+    }
+
+    private static void addTable(StringBuilder story, IcePad x) {
+        story.append(" table");
+        for (int fluid = 0; fluid < 3; fluid++) {
+            for (int fall = 1; fall <= 3; fall++) {
+                int holds = x.table(fluid, fall, 1);
+                x.table(fluid, fall, holds);
+                story.append(' ').append(holds);
+            }
+        }
+    }
+
+    /** The permit, and what went into the river today, which only a release tells. */
+    private static void addRiver(StringBuilder story, IcePad x) {
+        int permit = x.permit(100000);
+        story.append(" permit ").append(permit);
+        if (x.sum(3) > 0 && x.sum(5) < 100000) {
+            story.append(" went in today ").append(x.release(1));
+        }
+        x.permit(permit);
     }
 
     /** All that can be asked of an airport, as one text. */

@@ -8,26 +8,26 @@ import java.util.TreeSet;
 /** The class shows the document's face, and nothing besides. */
 public final class FaceTest {
     private static final String[] METHODS = {
-        "aircraft(int,int,int)int",
-        "aircraftOf(int,int)int",
-        "cancel(int)int",
-        "clock(int)double",
-        "close(int,int)int",
-        "code(int)int",
+        "aircraft(int,int,int)int IllegalArgument IllegalState",
+        "aircraftOf(int,int)int IndexOutOfBounds IllegalArgument",
+        "cancel(int)int IndexOutOfBounds IllegalState",
+        "clock(int)double IndexOutOfBounds IllegalState",
+        "close(int,int)int IllegalArgument",
+        "code(int)int IndexOutOfBounds",
         "isGood()boolean",
-        "pass(int)int",
-        "permit(int)int",
-        "pilot(int,int)int",
-        "queue(int)int",
-        "release(int)int",
-        "spray(int)int",
-        "sum(int)int",
-        "supply(int,int)int",
-        "table(int,int,int)int",
-        "thirdOf(int,int)int",
-        "treat(int,int,int,int,int)int",
-        "weather(int,int,int,int)void",
-        "whyNot(int)int",
+        "pass(int)int IllegalArgument",
+        "permit(int)int IllegalArgument",
+        "pilot(int,int)int IndexOutOfBounds IllegalArgument",
+        "queue(int)int IndexOutOfBounds",
+        "release(int)int IllegalArgument IllegalState",
+        "spray(int)int IndexOutOfBounds",
+        "sum(int)int IllegalArgument",
+        "supply(int,int)int IndexOutOfBounds IllegalArgument IllegalState",
+        "table(int,int,int)int IndexOutOfBounds IllegalArgument",
+        "thirdOf(int,int)int IndexOutOfBounds IllegalArgument",
+        "treat(int,int,int,int,int)int IndexOutOfBounds IllegalArgument IllegalState",
+        "weather(int,int,int,int)void IllegalArgument",
+        "whyNot(int)int IndexOutOfBounds",
     };
 
     public static void main(String[] args) {
@@ -54,6 +54,9 @@ public final class FaceTest {
             text.append(text.charAt(text.length() - 1) == '(' ? "" : ",").append(type.getName());
         }
         text.append(')').append(method.getReturnType().getName());
+        for (Class<?> thrown : method.getExceptionTypes()) {
+            text.append(' ').append(thrown.getSimpleName().replace("Exception", ""));
+        }
         return Modifier.isPublic(method.getModifiers()) ? text.toString() : "not public: " + text;
     }
 
