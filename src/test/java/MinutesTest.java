@@ -363,6 +363,7 @@ public final class MinutesTest {
                 passAll(x, 1439);
                 Check.notNow("in the last minute of the day", x, () -> x.release(1));
                 x.pass(1);
+                Check.notNow("more than the permit in the first minute of the next", x, () -> x.release(501));
                 Check.is("in the first minute of the next", x.release(1), 1);
             }
         });

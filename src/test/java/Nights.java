@@ -14,7 +14,7 @@ final class Nights {
         x.permit(600);
         x.aircraft(20, 0, 900);
         x.aircraft(20, 0, 900);
-        x.aircraft(40, 40, 900);
+        x.aircraft(50, 40, 900);
         x.aircraft(50, 0, 900);
         x.aircraft(61, 9, 12);
         x.treat(0, 0, 0, 10, 100);
@@ -25,7 +25,7 @@ final class Nights {
         x.treat(3, 1, 0, 2000, 75);
         x.weather(-50, SNOW, 7, 5);
         x.spray(0);
-        x.pilot(1, 2);
+        x.pilot(1, 0);
         x.close(4, 1);
         x.pass(1);
         return x;

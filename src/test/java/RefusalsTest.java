@@ -23,6 +23,8 @@ public final class RefusalsTest {
         Check.sentence("Promise 9: the pad is not free", RefusalsTest::treatOnTakenPad);
         Check.sentence("Promise 9: or too narrow", RefusalsTest::treatOnNarrowPad);
         Check.sentence("Promise 9: or the tank has less", RefusalsTest::treatFromTankWithLess);
+        Check.sentence("Terms: A call that throws an exception changes nothing. (of an earlier treatment)",
+                RefusalsTest::treatAgainInVain);
     }
 
     private static void river() {
@@ -133,6 +135,14 @@ public final class RefusalsTest {
             Check.is("treat with all there is", x.treat(0, 0, of, 150, 50), 3);
             Check.is("the tank is empty then", x.sum(1), 0);
         }
+    }
+
+    private static void treatAgainInVain() {
+        not("treat a clean one on a taken pad", Nights::busy, x -> x.treat(Nights.CLEANED, 1, 1, 100, 50));
+        not("treat a clean one on a narrow pad", Nights::busy, x -> x.treat(Nights.CLEANED, 0, 1, 100, 50));
+        not("treat a clean one with more than there is", Nights::busy, x -> x.treat(Nights.CLEANED, 2, 1, 301, 50));
+        not("treat one on a pad with another fluid", Nights::busy, x -> x.treat(Nights.TREATED, 2, 1, 100, 50));
+        not("treat one that left with another fluid", Nights::busy, x -> x.treat(Nights.LEFT, 2, 1, 100, 50));
     }
 
     private static IcePad withLitres(int fluid, int litres) {
