@@ -6,10 +6,10 @@ public final class LongRunsTest {
     private static final int RUNS = 400;
     private static final int CALLS = 250;
 
-    private long seed;
+    private final Numbers numbers;
 
     private LongRunsTest(long seed) {
-        this.seed = seed;
+        numbers = new Numbers(seed);
     }
 
     public static void main(String[] args) {
@@ -41,10 +41,8 @@ public final class LongRunsTest {
         return x.sum(0) - x.sum(1) - x.sum(2) - x.sum(3) - x.sum(4) - x.sum(5);
     }
 
-    /** A number from low to high; the same in every run of the tests. */
     private int next(int low, int high) {
-        seed = seed * 6364136223846793005L + 1442695040888963407L;
-        return low + (int) ((seed >>> 33) % (high - low + 1));
+        return numbers.from(low, high);
     }
 
     private int[] nextCall() {
